@@ -326,6 +326,7 @@ public final class FieldQuotas {
         }
 
         void copyFrom(Survey other) {
+            // The rows that are not used yet are copied too, so that they hold zeros always.
             addressRows.copyFrom(other.addressRows);
             interviewerRows.copyFrom(other.interviewerRows);
             cellRows.copyFrom(other.cellRows);
@@ -412,9 +413,6 @@ public final class FieldQuotas {
             int address = addressCount;
             addressCount++;
             addressRows.put(address, ADDRESS_AREA, area);
-            addressRows.put(address, ADDRESS_OUTCOME, OPEN);
-            addressRows.put(address, ADDRESS_CALLS, 0);
-            addressRows.put(address, ADDRESS_VAIN, 0);
             // What is not there is kept as the answer that addressOf gives about it.
             for (int column = ADDRESS_CALL_DAY; column < ADDRESS_COLUMNS; column++) {
                 addressRows.put(address, column, NOT_FOUND);
@@ -433,10 +431,6 @@ public final class FieldQuotas {
             interviewerCount++;
             interviewerRows.put(interviewer, INTERVIEWER_AREA, area);
             interviewerRows.put(interviewer, INTERVIEWER_LOAD, load);
-            // An undo may have left the numbers of one who was added before.
-            for (int column = INTERVIEWER_TODAY; column < INTERVIEWER_COLUMNS; column++) {
-                interviewerRows.put(interviewer, column, 0);
-            }
             return interviewer;
         }
 
@@ -882,8 +876,6 @@ public final class FieldQuotas {
         LATER("later", 5),
         DAY("day", 1);
 
-        private static final Verb[] ALL = values();
-
         private final String word;
         private final int numbers;
 
@@ -895,6 +887,8 @@ public final class FieldQuotas {
 
     /** The text, and the command that was read from it last. */
     private static final class Script {
+        private static final Verb[] VERBS = Verb.values();
+
         private final char[] characters;
         private final int[] numbers;
         private int length;
@@ -958,8 +952,8 @@ public final class FieldQuotas {
         }
 
         private Verb verbAt(int start) {
-            for (int i = 0; i < Verb.ALL.length; i++) {
-                Verb candidate = Verb.ALL[i];
+            for (int i = 0; i < VERBS.length; i++) {
+                Verb candidate = VERBS[i];
                 if (candidate != null && hasWordAt(start, candidate.word)) {
                     return candidate;
                 }

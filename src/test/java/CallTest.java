@@ -117,6 +117,14 @@ public final class CallTest {
         x.set(1, 0);
         due.is("6: today at the same time", x.call(0, 0, 1, 0), -2);
         due.is("6: today at another time", x.call(0, 0, 0, 0), 0);
+        x.pass(4);
+        x.set(1, 9);
+        x.call(0, 1, 0, 0);
+        x.pass(8);
+        due.is("6: eight days ago", x.call(0, 1, 1, 0), -2);
+        due.is("7: eight days ago", x.later(0, 1, 1, 99, 0), -2);
+        x.pass(1);
+        due.is("6: nine days ago", x.call(0, 1, 1, 0), 0);
     }
 
     private static void appointments() {

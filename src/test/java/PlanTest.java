@@ -288,6 +288,20 @@ public final class PlanTest {
         due.is("20: back to it", x.count(2), 3);
         due.is("20: the last one", x.undo(), 0);
         due.is("20: the first day", x.count(2), 2);
+        undoAfterMany();
+    }
+
+    private static void undoAfterMany() {
+        for (int many = 4; many <= 40; many++) {
+            FieldQuotas x = new FieldQuotas();
+            for (int i = 0; i < many; i++) {
+                x.pass(1);
+            }
+            for (int left = 3; left >= 0; left--) {
+                due.is("20: left", x.undo(), left);
+                due.is("20: the day after " + many, x.count(2), many - 4 + left);
+            }
+        }
     }
 
     private static FieldQuotas busy() {

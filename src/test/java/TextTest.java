@@ -147,6 +147,10 @@ public final class TextTest {
         due.is("23: what 2", x.fault(2), -1);
         Due.write(x, "x");
         due.is("23: what 2", x.fault(2), -1);
+        due.is("23: a fault", x.fault(1), 1);
+        Due.rewrite(x, "day 1;");
+        due.is("23: a text without the fault", x.fault(1), -4);
+        due.is("24: a text without the fault", x.play(), 1);
         due.refuses("23: fault is no change", 0, () -> {
             FieldQuotas y = start();
             Due.write(y, "day 1;address 0;day 0;");
