@@ -3,6 +3,14 @@ final class Due {
     private int wrong = 0;
     private int asked = 0;
 
+    int wrong() {
+        return wrong;
+    }
+
+    int asked() {
+        return asked;
+    }
+
     void is(String what, long got, long want) {
         asked++;
         if (got != want) {
@@ -32,6 +40,22 @@ final class Due {
         FieldQuotas tried = state.make();
         is(what, call.on(tried), want);
         same(what + " changes nothing", Snapshot.of(tried), Snapshot.of(state.make()));
+        FieldQuotas again = state.make();
+        call.on(again);
+        same(what + " changes nothing in the history", Snapshot.ofHistory(again),
+                Snapshot.ofHistory(state.make()));
+    }
+
+    /** Tests that numbers out of this range are INVALID_ARGUMENT and change nothing. */
+    void bounds(String what, int least, int most, State state, Argument call) {
+        int[] numbers = {least - 1, most + 1, -most - 1, least - 256, least + 256, least - 65536,
+            least + 65536, most + (1 << 30), least - (1 << 30), Integer.MAX_VALUE,
+            Integer.MIN_VALUE, Integer.MIN_VALUE + least, Integer.MIN_VALUE + most};
+        for (int number : numbers) {
+            if (number < least || number > most) {
+                refuses(what + " " + number, -1, state, x -> call.on(x, number));
+            }
+        }
     }
 
     void finish() {
@@ -48,6 +72,10 @@ final class Due {
 
     interface Call {
         int on(FieldQuotas x);
+    }
+
+    interface Argument {
+        int on(FieldQuotas x, int number);
     }
 
     /** Types a text. */

@@ -19,6 +19,26 @@ final class Snapshot {
         return all.toString();
     }
 
+    /** What the states of the history hold, in short; they are undone for it. */
+    static String ofHistory(FieldQuotas x) {
+        StringBuilder all = new StringBuilder();
+        int left = x.count(8);
+        for (int i = 0; i <= 4; i++) {
+            for (int what = 0; what <= 11; what++) {
+                all.append(' ').append(x.count(what));
+            }
+            for (int what = 0; what <= 7; what++) {
+                all.append(' ').append(x.addresses(what));
+            }
+            for (int cell = 0; cell < 12; cell++) {
+                all.append(' ').append(x.cellOf(cell / 3, cell % 3, 0));
+                all.append(' ').append(x.cellOf(cell / 3, cell % 3, 3));
+            }
+            all.append(" | ").append(x.undo());
+        }
+        return all.append(" of ").append(left).toString();
+    }
+
     private static void appendAddresses(StringBuilder all, FieldQuotas x) {
         for (int what = 0; what <= 7; what++) {
             all.append(' ').append(x.addresses(what));
