@@ -16,6 +16,7 @@ final class Boundaries {
     }
 
     private static final int PROMISES = 24;
+    private static final long MOST_MILLISECONDS = 120000;
 
     private final Map<String, String> sections = new LinkedHashMap<>();
     private final Set<String> headings = new TreeSet<>();
@@ -42,19 +43,38 @@ final class Boundaries {
         sentences++;
         headings.add(heading);
         Due due = new Due();
+        boolean ends = runToTheEnd(test, due);
+        boolean asks = due.asked() > 0;
         if (!sections.isEmpty()) {
             String section = sections.getOrDefault(heading, "");
             due.holds("that the document has these words", plain(section).contains(plain(words)));
         }
-        try {
-            test.run(due);
-        } catch (RuntimeException | Error thrown) {
-            due.holds("that nothing throws (" + thrown + ")", false);
-        }
-        if (due.asked() == 0 || due.wrong() != 0) {
+        if (!ends || !asks || due.wrong() != 0) {
             wrong++;
             System.out.println("  FAILED: " + heading + ": \"" + words + "\"");
         }
+        if (!ends) {
+            System.out.println("  a call does not end: the other sentences are not tested");
+            System.exit(1);
+        }
+    }
+
+    private static boolean runToTheEnd(Test test, Due due) {
+        Thread runner = new Thread(() -> {
+            try {
+                test.run(due);
+            } catch (RuntimeException | Error thrown) {
+                due.holds("that nothing throws (" + thrown + ")", false);
+            }
+        });
+        runner.setDaemon(true);
+        runner.start();
+        try {
+            runner.join(MOST_MILLISECONDS);
+        } catch (InterruptedException interrupted) {
+            return false;
+        }
+        return !runner.isAlive();
     }
 
     void finish() {

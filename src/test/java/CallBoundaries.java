@@ -36,6 +36,9 @@ final class CallBoundaries {
     private static void tellOfAppointments(Boundaries all) {
         all.of("Promise 7", "An interviewer calls at an address, and an appointment is made.",
                 CallBoundaries::callsAndAppointment);
+        all.of("Promise 7", "interviewer: number of the interviewer", CallBoundaries::whoAppoints);
+        all.of("Promise 7", "address: number of the address", CallBoundaries::whereToAppoint);
+        all.of("Promise 7", "time: 0 to 2", CallBoundaries::timeOfAppointingCall);
         all.of("Promise 7", "day: the day of the appointment, 0 to 999",
                 CallBoundaries::dayOfAppointment);
         all.of("Promise 7", "then: its time, 0 to 2", CallBoundaries::timeOfAppointment);
@@ -188,6 +191,37 @@ final class CallBoundaries {
         }
         due.is("calls", x.count(3), 1);
         due.is("in vain", x.count(4), 0);
+    }
+
+    private static void whoAppoints(Due due) {
+        FieldQuotas x = Made.full();
+        for (int who = 0; who < 5; who++) {
+            due.is("later of " + who, x.later(who, 10 + who, 0, 1, 0), who + 1);
+            due.is("the last caller", x.addressOf(10 + who, 9), who);
+            due.is("calls of " + who, x.interviewerOf(who, 2), 1);
+        }
+        due.is("-1", x.later(-1, 0, 0, 1, 0), -1);
+        due.is("5", x.later(5, 0, 0, 1, 0), -1);
+    }
+
+    private static void whereToAppoint(Due due) {
+        FieldQuotas x = Made.full();
+        for (int where = 0; where < 24; where++) {
+            due.is("later at " + where, x.later(where % 5, where, 0, 1, 0), where + 1);
+            due.is("the appointments", x.addresses(5), (1 << where + 1) - 1);
+        }
+        due.is("-1", x.later(0, -1, 0, 1, 0), -1);
+        due.is("24", x.later(0, 24, 0, 1, 0), -1);
+    }
+
+    private static void timeOfAppointingCall(Due due) {
+        FieldQuotas x = Made.houses(3);
+        for (int time = 0; time <= 2; time++) {
+            due.is("later at the time " + time, x.later(0, time, time, 1, 2 - time), time + 1);
+            due.is("the time of the call", x.addressOf(time, 5), time);
+        }
+        due.is("-1", x.later(0, 0, -1, 1, 0), -1);
+        due.is("3", x.later(0, 0, 3, 1, 0), -1);
     }
 
     private static void dayOfAppointment(Due due) {

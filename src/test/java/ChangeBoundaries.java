@@ -21,17 +21,20 @@ final class ChangeBoundaries {
                 ChangeBoundaries::refusedCalls);
         all.of(part, "If there is no address or interviewer with a certain number, this is"
                 + " INVALID_ARGUMENT.", ChangeBoundaries::noSuchNumber);
-        all.of(part, "INVALID_ARGUMENT = -1", ChangeBoundaries::invalidArgument);
-        all.of(part, "NOT_POSSIBLE = -2", ChangeBoundaries::notPossible);
-        all.of(part, "LIMIT_REACHED = -3", ChangeBoundaries::limitReached);
-        all.of(part, "NOT_FOUND = -4", ChangeBoundaries::notFound);
+        all.of(part, "INVALID_ARGUMENT = -1: An argument is out of its range, or there is no such"
+                + " address or interviewer.", ChangeBoundaries::invalidArgument);
+        all.of(part, "NOT_POSSIBLE = -2: The call is not possible in the present state.",
+                ChangeBoundaries::notPossible);
+        all.of(part, "LIMIT_REACHED = -3: A fixed limit has been reached.",
+                ChangeBoundaries::limitReached);
+        all.of(part, "NOT_FOUND = -4: There is no such value.", ChangeBoundaries::notFound);
     }
 
     /** A state in which each of the changes is possible, with three states in the history. */
     private static FieldQuotas busy() {
         FieldQuotas x = Made.field();
-        while (x.undo() > 1) {
-            x.count(8);
+        for (int i = 0; i < 3; i++) {
+            x.undo();
         }
         x.address(0);
         x.later(0, 1, 2, 7, 2);
@@ -118,11 +121,11 @@ final class ChangeBoundaries {
         due.is("undo", x.undo(), 0);
         x.clearText();
         FieldQuotas y = withSettings();
-        while (y.count(2) < 4) {
+        for (int i = 0; i < 4; i++) {
             y.pass(1);
         }
-        while (y.undo() > 0) {
-            y.count(8);
+        for (int i = 0; i < 4; i++) {
+            y.undo();
         }
         due.same("everything else is as before", Snapshot.of(x), Snapshot.of(y));
     }
@@ -254,21 +257,59 @@ final class ChangeBoundaries {
 
     private static void invalidArgument(Due due) {
         due.is("the constant", FieldQuotas.INVALID_ARGUMENT, -1);
-        due.is("an answer", new FieldQuotas().address(4), FieldQuotas.INVALID_ARGUMENT);
+        FieldQuotas x = Made.field();
+        int[] answers = {x.address(4), x.interviewer(0, 10), x.quota(0, 0, 21),
+            x.population(0, 0, 10000), x.call(2, 0, 0, 0), x.call(0, 4, 0, 0),
+            x.later(0, 0, 0, 1000, 0), x.pass(0), x.set(2, 1), x.addressOf(4, 0),
+            x.interviewerOf(2, 0), x.cellOf(0, 0, 5), x.addresses(8), x.count(12), x.next(2, 0),
+            x.possible(0, 3), x.partBits(3), x.type(127), x.fault(2)};
+        for (int i = 0; i < answers.length; i++) {
+            due.is("the answer " + i, answers[i], -1);
+        }
     }
 
     private static void notPossible(Due due) {
         due.is("the constant", FieldQuotas.NOT_POSSIBLE, -2);
-        due.is("an answer", new FieldQuotas().undo(), FieldQuotas.NOT_POSSIBLE);
+        FieldQuotas x = Made.fieldWith("x");
+        x.call(0, 0, 0, 0);
+        int[] answers = {x.call(0, 0, 0, 0), x.later(0, 1, 0, 0, 0), x.play(),
+            new FieldQuotas().undo()};
+        for (int i = 0; i < answers.length; i++) {
+            due.is("the answer " + i, answers[i], -2);
+        }
+        x.pass(1);
+        due.is("in another state", x.call(0, 0, 1, 0), 0);
+        due.is("in another state", x.later(0, 1, 0, 2, 0), 1);
+        x.clearText();
+        due.is("in another state", x.play(), 0);
     }
 
     private static void limitReached(Due due) {
         due.is("the constant", FieldQuotas.LIMIT_REACHED, -3);
-        due.is("an answer", Made.full().address(0), FieldQuotas.LIMIT_REACHED);
+        FieldQuotas x = Made.full();
+        Made.passTo(x, 999);
+        for (int i = 0; i < 80; i++) {
+            x.type(32);
+        }
+        int[] answers = {x.address(0), x.interviewer(0, 1), x.pass(1), x.type(32)};
+        for (int i = 0; i < answers.length; i++) {
+            due.is("the answer " + i, answers[i], -3);
+        }
+        int[] reached = {x.count(0), x.count(1), x.count(2), x.count(9)};
+        int[] limits = {24, 5, 999, 80};
+        for (int i = 0; i < limits.length; i++) {
+            due.is("the limit " + i, reached[i], limits[i]);
+        }
     }
 
     private static void notFound(Due due) {
         due.is("the constant", FieldQuotas.NOT_FOUND, -4);
-        due.is("an answer", new FieldQuotas().rateBits(), FieldQuotas.NOT_FOUND);
+        FieldQuotas x = new FieldQuotas();
+        x.address(0);
+        int[] answers = {x.daysLeft(), x.rateBits(), x.partBits(0), x.cellOf(0, 0, 4), x.fault(0),
+            x.fault(1), x.addressOf(0, 4), x.addressOf(0, 9), Made.houses(0).next(0, 0)};
+        for (int i = 0; i < answers.length; i++) {
+            due.is("the answer " + i, answers[i], -4);
+        }
     }
 }

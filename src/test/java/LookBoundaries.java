@@ -12,6 +12,8 @@ final class LookBoundaries {
     }
 
     private static void tellOfAddressOf(Boundaries all) {
+        all.of("Promise 10", "address: number of the address", LookBoundaries::whichAddress);
+        all.of("Promise 10", "0: its area", LookBoundaries::area);
         all.of("Promise 10", "1: its outcome, 0 if it is open", LookBoundaries::outcome);
         all.of("Promise 10", "2: calls made there so far; 3: those in vain",
                 LookBoundaries::callsMadeThere);
@@ -28,6 +30,8 @@ final class LookBoundaries {
     }
 
     private static void tellOfInterviewerOf(Boundaries all) {
+        all.of("Promise 11", "interviewer: number of the interviewer",
+                LookBoundaries::whichInterviewer);
         all.of("Promise 11", "0: the area; 1: the load", LookBoundaries::areaAndLoad);
         all.of("Promise 11", "2: the calls today; 3: all calls so far", LookBoundaries::callsToday);
         all.of("Promise 11", "4: interviews so far", LookBoundaries::interviewsSoFar);
@@ -37,6 +41,8 @@ final class LookBoundaries {
     }
 
     private static void tellOfCellOf(Boundaries all) {
+        all.of("Promise 12", "area: 0 to 3", LookBoundaries::areaOfCell);
+        all.of("Promise 12", "group: 0 to 2", LookBoundaries::groupOfCell);
         all.of("Promise 12", "0: its quota; 1: its interviews", LookBoundaries::quotaAndInterviews);
         all.of("Promise 12", "2: interviews that are wanted still (at least 0)",
                 LookBoundaries::wantedStill);
@@ -77,6 +83,27 @@ final class LookBoundaries {
     }
 
     // ---- addressOf
+
+    private static void whichAddress(Due due) {
+        FieldQuotas x = Made.full();
+        for (int address = 0; address < 24; address++) {
+            x.later(address % 5, address, 0, 500 + address, 0);
+        }
+        for (int address = 0; address < 24; address++) {
+            due.is("the address " + address, x.addressOf(address, 6), 500 + address);
+        }
+        due.is("-1", x.addressOf(-1, 6), -1);
+        due.is("24", x.addressOf(24, 6), -1);
+    }
+
+    private static void area(Due due) {
+        FieldQuotas x = Made.full();
+        for (int address = 0; address < 24; address++) {
+            due.is("the area of " + address, x.addressOf(address, 0), address % 4);
+        }
+        x.call(0, 3, 0, 1);
+        due.is("of one with an outcome", x.addressOf(3, 0), 3);
+    }
 
     private static void outcome(Due due) {
         FieldQuotas x = Made.outcomes();
@@ -205,6 +232,19 @@ final class LookBoundaries {
 
     // ---- interviewerOf
 
+    private static void whichInterviewer(Due due) {
+        FieldQuotas x = Made.full();
+        for (int address = 0; address < 15; address++) {
+            int who = address < 5 ? 4 : address < 9 ? 3 : address < 12 ? 2 : address < 14 ? 1 : 0;
+            x.call(who, address, 0, 1);
+        }
+        for (int who = 0; who < 5; who++) {
+            due.is("calls of " + who, x.interviewerOf(who, 3), who + 1);
+        }
+        due.is("-1", x.interviewerOf(-1, 3), -1);
+        due.is("5", x.interviewerOf(5, 3), -1);
+    }
+
     private static void areaAndLoad(Due due) {
         FieldQuotas x = new FieldQuotas();
         for (int i = 0; i < 5; i++) {
@@ -282,6 +322,30 @@ final class LookBoundaries {
     }
 
     // ---- cellOf
+
+    private static void areaOfCell(Due due) {
+        FieldQuotas x = new FieldQuotas();
+        for (int area = 0; area <= 3; area++) {
+            x.quota(area, 1, 10 + area);
+        }
+        for (int area = 0; area <= 3; area++) {
+            due.is("the area " + area, x.cellOf(area, 1, 0), 10 + area);
+        }
+        due.is("-1", x.cellOf(-1, 1, 0), -1);
+        due.is("4", x.cellOf(4, 1, 0), -1);
+    }
+
+    private static void groupOfCell(Due due) {
+        FieldQuotas x = new FieldQuotas();
+        for (int group = 0; group <= 2; group++) {
+            x.quota(2, group, 10 + group);
+        }
+        for (int group = 0; group <= 2; group++) {
+            due.is("the group " + group, x.cellOf(2, group, 0), 10 + group);
+        }
+        due.is("-1", x.cellOf(2, -1, 0), -1);
+        due.is("3", x.cellOf(2, 3, 0), -1);
+    }
 
     private static void quotaAndInterviews(Due due) {
         FieldQuotas x = Made.full();

@@ -50,8 +50,8 @@ final class Made {
 
     /** Lets more days go by than one call can. */
     static void passTo(FieldQuotas x, int day) {
-        for (int now = x.count(2); now < day; now = x.count(2)) {
-            x.pass(Math.min(99, day - now));
+        for (int left = day - x.count(2); left > 0; left -= 99) {
+            x.pass(Math.min(99, left));
         }
     }
 

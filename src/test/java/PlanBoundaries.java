@@ -24,6 +24,8 @@ final class PlanBoundaries {
         all.of("Promise 15", "INVALID_ARGUMENT if an argument is out of range",
                 PlanBoundaries::wrongNext);
         all.of("Promise 15", "NOT_FOUND if no call is possible", PlanBoundaries::noneIsPossible);
+        all.of("Promise 16", "interviewer: number of the interviewer",
+                PlanBoundaries::forWhomPossible);
         all.of("Promise 16", "time: 0 to 2", PlanBoundaries::timeOfPossible);
         all.of("Promise 16", "Returns the set", PlanBoundaries::possibleSet);
         all.of("Promise 16", "INVALID_ARGUMENT if an argument is out of range",
@@ -33,6 +35,8 @@ final class PlanBoundaries {
     private static void tellOfDaysLeft(Boundaries all) {
         all.of("Promise 17", "Tells the least number of days, the present one included",
                 PlanBoundaries::leastDays);
+        all.of("Promise 17", "in which all calls could be made that are needed at most from now"
+                + " on", PlanBoundaries::fromNowOn);
         all.of("Promise 17", "of each open address as many as setting 0 less its calls in vain",
                 PlanBoundaries::callsThatAreNeeded);
         all.of("Promise 17", "(at least 1)", PlanBoundaries::atLeast1);
@@ -133,6 +137,21 @@ final class PlanBoundaries {
         due.is("on another day", z.next(0, 0), 9);
     }
 
+    private static void forWhomPossible(Due due) {
+        FieldQuotas x = new FieldQuotas();
+        for (int who = 0; who < 5; who++) {
+            x.interviewer(0, 1);
+            x.address(0);
+        }
+        for (int who = 0; who < 5; who++) {
+            due.is("ahead of the call of " + who, x.possible(who, 0), 31 - ((1 << who) - 1));
+            x.call(who, who, 0, 1);
+            due.is("behind the call of " + who, x.possible(who, 0), 0);
+        }
+        due.is("-1", x.possible(-1, 0), -1);
+        due.is("5", x.possible(5, 0), -1);
+    }
+
     private static void timeOfPossible(Due due) {
         FieldQuotas x = Made.houses(3);
         for (int time = 0; time <= 2; time++) {
@@ -199,6 +218,17 @@ final class PlanBoundaries {
             }
         }
         due.is("today alone", crew(1, 1, 1).daysLeft(), 1);
+    }
+
+    /** Of 24 addresses with 9 calls each, less and less is left, to the last one. */
+    private static void fromNowOn(Due due) {
+        FieldQuotas x = crew(9, 24, 9);
+        for (int ended = 0; ended < 24; ended++) {
+            due.is("open: " + (24 - ended), x.daysLeft(), 24 - ended);
+            x.call(0, ended, 0, 1);
+            x.pass(1);
+        }
+        due.is("none is open", x.daysLeft(), 0);
     }
 
     private static void callsThatAreNeeded(Due due) {

@@ -29,6 +29,8 @@ final class TermBoundaries {
                 TermBoundaries::atMost24);
         all.of("Addresses", "An address is open at first.", TermBoundaries::openAtFirst);
         all.of("Addresses", "It gets an outcome at some time, once", TermBoundaries::once);
+        all.of("Addresses", "1 interviewed (with a group), 2 refused, 3 not reached, 4 not wanted",
+                TermBoundaries::outcomes);
         all.of("Addresses", "An open address has the calls made there so far, and perhaps an"
                 + " appointment: a day and a time.", TermBoundaries::perhapsAnAppointment);
         all.of("Addresses", "An address is not reached when setting 0 calls have been made there"
@@ -214,6 +216,16 @@ final class TermBoundaries {
                 due.is("the outcome stays", x.addressOf(address, 1), address);
             }
         }
+    }
+
+    private static void outcomes(Due due) {
+        FieldQuotas x = Made.outcomes();
+        for (int outcome = 0; outcome <= 4; outcome++) {
+            due.is("the outcome", x.addressOf(outcome, 1), outcome);
+            due.is("those with it", x.addresses(outcome), 1 << outcome);
+            due.is("a group", x.addressOf(outcome, 8), outcome == 1 ? 0 : -4);
+        }
+        due.is("there is no outcome 5: these are appointments", x.addresses(5), 0);
     }
 
     private static void perhapsAnAppointment(Due due) {
