@@ -356,9 +356,15 @@ final class TextBoundaries {
         due.is("no characters", x.count(9), 0);
         due.is("no fault", x.fault(0), -4);
         due.is("no commands", x.play(), 0);
-        Due.write(x, "day 1");
-        due.is("nothing is left of the old text", x.fault(0), 0);
-        due.is("nothing is left of the old text", x.fault(1), 1);
+        Due.rewrite(x, "day 1;day 2;");
+        for (int length = 0; length <= 6; length++) {
+            Due.rewrite(x, "day 1;".substring(0, length));
+            boolean isGood = length == 0 || length == 6;
+            due.is("nothing is left of the old text", x.fault(0), isGood ? -4 : 0);
+            due.is("nothing is left of the old text", x.fault(1), isGood ? -4 : 1);
+        }
+        due.is("nor is it done", x.play(), 1);
+        due.is("the day", x.count(2), 1);
         FieldQuotas y = Made.fieldWith("day 1;");
         y.clearText();
         due.is("it is no change", y.count(8), 4);
