@@ -3,7 +3,7 @@ final class CallBoundaries {
     private CallBoundaries() {
     }
 
-    static void tell(Boundaries all) {
+    static void tell(Sentences all) {
         tellOfCalls(all);
         tellOfAppointments(all);
         all.of("Promise 8", "days: 1 to 99", CallBoundaries::days);
@@ -19,7 +19,7 @@ final class CallBoundaries {
                 CallBoundaries::wrongSetting);
     }
 
-    private static void tellOfCalls(Boundaries all) {
+    private static void tellOfCalls(Sentences all) {
         all.of("Promise 6", "interviewer: number of the interviewer", CallBoundaries::whoCalls);
         all.of("Promise 6", "address: number of the address", CallBoundaries::whereToCall);
         all.of("Promise 6", "time: 0 to 2", CallBoundaries::timeOfCall);
@@ -33,7 +33,7 @@ final class CallBoundaries {
                 CallBoundaries::callNotPossible);
     }
 
-    private static void tellOfAppointments(Boundaries all) {
+    private static void tellOfAppointments(Sentences all) {
         all.of("Promise 7", "An interviewer calls at an address, and an appointment is made.",
                 CallBoundaries::callsAndAppointment);
         all.of("Promise 7", "interviewer: number of the interviewer", CallBoundaries::whoAppoints);

@@ -3,7 +3,7 @@ final class ChangeBoundaries {
     private ChangeBoundaries() {
     }
 
-    static void tell(Boundaries all) {
+    static void tell(Sentences all) {
         String part = "Changes and errors";
         all.of(part, "The changes are the calls of address, interviewer, quota, population, call,"
                 + " later, pass, set and play that return no error.", ChangeBoundaries::changes);
@@ -11,7 +11,7 @@ final class ChangeBoundaries {
         all.of(part, "A history of at most 4 states is kept", ChangeBoundaries::atMost4);
         all.of(part, "each change records everything before it but the text",
                 ChangeBoundaries::everythingButTheText);
-        all.of(part, "if there are 5 states then, the oldest one is dropped",
+        all.of(part, "and if there are 5 states then, the oldest one is dropped",
                 ChangeBoundaries::oldestIsDropped);
         all.of(part, "If several errors apply to a call, INVALID_ARGUMENT is returned rather than"
                 + " NOT_POSSIBLE", ChangeBoundaries::invalidRatherThanNotPossible);
@@ -21,8 +21,8 @@ final class ChangeBoundaries {
                 ChangeBoundaries::refusedCalls);
         all.of(part, "If there is no address or interviewer with a certain number, this is"
                 + " INVALID_ARGUMENT.", ChangeBoundaries::noSuchNumber);
-        all.of(part, "INVALID_ARGUMENT = -1: An argument is out of its range, or there is no such"
-                + " address or interviewer.", ChangeBoundaries::invalidArgument);
+        all.of(part, "The constants: INVALID_ARGUMENT = -1: An argument is out of its range, or"
+                + " there is no such address or interviewer.", ChangeBoundaries::invalidArgument);
         all.of(part, "NOT_POSSIBLE = -2: The call is not possible in the present state.",
                 ChangeBoundaries::notPossible);
         all.of(part, "LIMIT_REACHED = -3: A fixed limit has been reached.",

@@ -18,6 +18,12 @@ public final class FaceTest {
         constants();
         methods();
         classes();
+        sizes(FieldQuotas.class);
+        statics(FieldQuotas.class);
+        for (Class<?> inner : FieldQuotas.class.getDeclaredClasses()) {
+            sizes(inner);
+            statics(inner);
+        }
         due.finish();
     }
 
@@ -69,7 +75,8 @@ public final class FaceTest {
         due.is("constructors", constructors.length, 1);
         due.is("the constructor", constructors[0].getModifiers(), Modifier.PUBLIC);
         due.is("it takes nothing", constructors[0].getParameterCount(), 0);
-        due.holds("at most some twelve classes", FieldQuotas.class.getDeclaredClasses().length < 12);
+        int inside = FieldQuotas.class.getDeclaredClasses().length;
+        due.holds("at most some twelve classes", inside < 12);
         for (Class<?> inner : FieldQuotas.class.getDeclaredClasses()) {
             int flags = inner.getModifiers();
             due.holds(inner + " is not seen", !Modifier.isPublic(flags)
@@ -78,5 +85,42 @@ public final class FaceTest {
                 due.holds(method + " has a name of its own", !isName(method.getName()));
             }
         }
+    }
+
+    private static void sizes(Class<?> type) {
+        int fields = 0;
+        for (Field field : type.getDeclaredFields()) {
+            boolean isStatic = Modifier.isStatic(field.getModifiers());
+            fields += isStatic || field.isSynthetic() ? 0 : 1;
+            boolean isKnown = isStatic || field.isSynthetic() || !type.isEnum()
+                    || isOneOf(field.getType(), int.class, long.class, boolean.class, String.class);
+            due.holds(field + " may stand in an enum", isKnown);
+        }
+        due.holds(type + " has at most some twenty fields", fields <= 20);
+        for (Method method : type.getDeclaredMethods()) {
+            due.holds(method + " takes at most seven", method.getParameterCount() <= 7);
+        }
+        for (Constructor<?> constructor : type.getDeclaredConstructors()) {
+            due.holds(constructor + " takes at most seven", constructor.getParameterCount() <= 7);
+        }
+    }
+
+    /** Static fields are constants, or the constants of an enum. */
+    private static void statics(Class<?> type) {
+        for (Field field : type.getDeclaredFields()) {
+            if (!Modifier.isStatic(field.getModifiers()) || field.isSynthetic()) {
+                continue;
+            }
+            Class<?> kind = field.getType();
+            boolean isEnum = kind.isEnum() || kind.isArray() && kind.getComponentType().isEnum();
+            due.holds(field + " is final", Modifier.isFinal(field.getModifiers()));
+            due.holds(field + " may be static", isEnum || isOneOf(kind, int.class, long.class,
+                    boolean.class, char.class, String.class, int[].class, long[].class,
+                    char[].class, byte[].class));
+        }
+    }
+
+    private static boolean isOneOf(Class<?> kind, Class<?>... kinds) {
+        return Arrays.asList(kinds).contains(kind);
     }
 }

@@ -3,7 +3,7 @@ final class LookBoundaries {
     private LookBoundaries() {
     }
 
-    static void tell(Boundaries all) {
+    static void tell(Sentences all) {
         tellOfAddressOf(all);
         tellOfInterviewerOf(all);
         tellOfCellOf(all);
@@ -11,9 +11,9 @@ final class LookBoundaries {
         tellOfCount(all);
     }
 
-    private static void tellOfAddressOf(Boundaries all) {
+    private static void tellOfAddressOf(Sentences all) {
         all.of("Promise 10", "address: number of the address", LookBoundaries::whichAddress);
-        all.of("Promise 10", "0: its area", LookBoundaries::area);
+        all.of("Promise 10", "what: 0: its area", LookBoundaries::area);
         all.of("Promise 10", "1: its outcome, 0 if it is open", LookBoundaries::outcome);
         all.of("Promise 10", "2: calls made there so far; 3: those in vain",
                 LookBoundaries::callsMadeThere);
@@ -29,10 +29,10 @@ final class LookBoundaries {
                 LookBoundaries::noSuchThing);
     }
 
-    private static void tellOfInterviewerOf(Boundaries all) {
+    private static void tellOfInterviewerOf(Sentences all) {
         all.of("Promise 11", "interviewer: number of the interviewer",
                 LookBoundaries::whichInterviewer);
-        all.of("Promise 11", "0: the area; 1: the load", LookBoundaries::areaAndLoad);
+        all.of("Promise 11", "what: 0: the area; 1: the load", LookBoundaries::areaAndLoad);
         all.of("Promise 11", "2: the calls today; 3: all calls so far", LookBoundaries::callsToday);
         all.of("Promise 11", "4: interviews so far", LookBoundaries::interviewsSoFar);
         all.of("Promise 11", "5: calls in other areas so far", LookBoundaries::callsInOtherAreas);
@@ -40,10 +40,11 @@ final class LookBoundaries {
                 LookBoundaries::wrongInterviewerOf);
     }
 
-    private static void tellOfCellOf(Boundaries all) {
+    private static void tellOfCellOf(Sentences all) {
         all.of("Promise 12", "area: 0 to 3", LookBoundaries::areaOfCell);
         all.of("Promise 12", "group: 0 to 2", LookBoundaries::groupOfCell);
-        all.of("Promise 12", "0: its quota; 1: its interviews", LookBoundaries::quotaAndInterviews);
+        all.of("Promise 12", "what: 0: its quota; 1: its interviews",
+                LookBoundaries::quotaAndInterviews);
         all.of("Promise 12", "2: interviews that are wanted still (at least 0)",
                 LookBoundaries::wantedStill);
         all.of("Promise 12", "3: its population", LookBoundaries::population);
@@ -54,8 +55,8 @@ final class LookBoundaries {
                 LookBoundaries::noInterviews);
     }
 
-    private static void tellOfAddresses(Boundaries all) {
-        all.of("Promise 13", "0: open ones; 1 to 4: those with this outcome",
+    private static void tellOfAddresses(Sentences all) {
+        all.of("Promise 13", "what: 0: open ones; 1 to 4: those with this outcome",
                 LookBoundaries::byOutcome);
         all.of("Promise 13", "5: open ones with appointments", LookBoundaries::withAppointments);
         all.of("Promise 13", "6: open ones whose appointment is over (its day is earlier than the"
@@ -66,8 +67,8 @@ final class LookBoundaries {
                 LookBoundaries::wrongAddresses);
     }
 
-    private static void tellOfCount(Boundaries all) {
-        all.of("Promise 14", "0: addresses; 1: interviewers; 2: the day",
+    private static void tellOfCount(Sentences all) {
+        all.of("Promise 14", "what: 0: addresses; 1: interviewers; 2: the day",
                 LookBoundaries::countOfAll);
         all.of("Promise 14", "3: calls so far; 4: those in vain; 5: interviews",
                 LookBoundaries::countOfCalls);

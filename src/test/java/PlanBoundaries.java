@@ -3,7 +3,7 @@ final class PlanBoundaries {
     private PlanBoundaries() {
     }
 
-    static void tell(Boundaries all) {
+    static void tell(Sentences all) {
         tellOfNext(all);
         tellOfDaysLeft(all);
         all.of("Promise 18", "of the addresses that have an outcome, those that were interviewed,"
@@ -17,7 +17,7 @@ final class PlanBoundaries {
         all.of("Promise 20", "NOT_POSSIBLE if it is empty", PlanBoundaries::emptyHistory);
     }
 
-    private static void tellOfNext(Boundaries all) {
+    private static void tellOfNext(Sentences all) {
         all.of("Promise 15", "interviewer: number of the interviewer", PlanBoundaries::whoIsNext);
         all.of("Promise 15", "time: 0 to 2", PlanBoundaries::timeOfNext);
         all.of("Promise 15", "Returns the number of the address", PlanBoundaries::numberOfNext);
@@ -32,7 +32,7 @@ final class PlanBoundaries {
                 PlanBoundaries::wrongPossible);
     }
 
-    private static void tellOfDaysLeft(Boundaries all) {
+    private static void tellOfDaysLeft(Sentences all) {
         all.of("Promise 17", "Tells the least number of days, the present one included",
                 PlanBoundaries::leastDays);
         all.of("Promise 17", "in which all calls could be made that are needed at most from now"
@@ -48,7 +48,7 @@ final class PlanBoundaries {
                 PlanBoundaries::noInterviewer);
     }
 
-    private static void tellOfPart(Boundaries all) {
+    private static void tellOfPart(Sentences all) {
         all.of("Promise 19", "the sum of the weights of all interviews of this group, over the"
                 + " areas in ascending order (the weight of a cell, times its interviews as a"
                 + " float)", PlanBoundaries::sumOfGroup);

@@ -3,7 +3,7 @@ final class SetUpBoundaries {
     private SetUpBoundaries() {
     }
 
-    static void tell(Boundaries all) {
+    static void tell(Sentences all) {
         all.of("Promise 1", "Creates a survey without addresses and interviewers, on the day 0.",
                 SetUpBoundaries::newObject);
         tellOfAddresses(all);
@@ -12,7 +12,7 @@ final class SetUpBoundaries {
         tellOfPopulations(all);
     }
 
-    private static void tellOfAddresses(Boundaries all) {
+    private static void tellOfAddresses(Sentences all) {
         all.of("Promise 2", "area: 0 to 3", SetUpBoundaries::areaOfAddress);
         all.of("Promise 2", "Adds an address, which is open.", SetUpBoundaries::openAddress);
         all.of("Promise 2", "Returns its number", SetUpBoundaries::numberOfAddress);
@@ -21,7 +21,7 @@ final class SetUpBoundaries {
         all.of("Promise 2", "LIMIT_REACHED if there are 24", SetUpBoundaries::thereAre24);
     }
 
-    private static void tellOfInterviewers(Boundaries all) {
+    private static void tellOfInterviewers(Sentences all) {
         all.of("Promise 3", "area: 0 to 3", SetUpBoundaries::areaOfInterviewer);
         all.of("Promise 3", "load: 1 to 9", SetUpBoundaries::load);
         all.of("Promise 3", "Returns the number of the interviewer",
@@ -31,7 +31,7 @@ final class SetUpBoundaries {
         all.of("Promise 3", "LIMIT_REACHED if there are 5", SetUpBoundaries::thereAre5);
     }
 
-    private static void tellOfQuotas(Boundaries all) {
+    private static void tellOfQuotas(Sentences all) {
         all.of("Promise 4", "(also below the interviews that there are)",
                 SetUpBoundaries::belowTheInterviews);
         all.of("Promise 4", "area: 0 to 3", SetUpBoundaries::areaOfQuota);
@@ -42,7 +42,7 @@ final class SetUpBoundaries {
                 SetUpBoundaries::wrongQuota);
     }
 
-    private static void tellOfPopulations(Boundaries all) {
+    private static void tellOfPopulations(Sentences all) {
         all.of("Promise 5", "area: 0 to 3", SetUpBoundaries::areaOfPopulation);
         all.of("Promise 5", "group: 0 to 2", SetUpBoundaries::groupOfPopulation);
         all.of("Promise 5", "people: 0 to 9999", SetUpBoundaries::people);

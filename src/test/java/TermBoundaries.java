@@ -3,15 +3,16 @@ final class TermBoundaries {
     private TermBoundaries() {
     }
 
-    static void tell(Boundaries all) {
+    static void tell(Sentences all) {
         all.of("What it is", "An object is used for at most 512 calls after it has been made",
                 TermBoundaries::the512thCall);
-        all.of("Terms", "bit k is for the address k", TermBoundaries::bits);
+        all.of("Terms", "Sets of addresses are told as bits: bit k is for the address k",
+                TermBoundaries::bits);
         all.of("Terms", "Time is told in days, the day 0 at first", TermBoundaries::firstDay);
         all.of("Terms", "a day has the times 0 (morning), 1 (afternoon) and 2 (evening)",
                 TermBoundaries::times);
-        all.of("Terms", "There are the areas 0 to 3 and the groups 0 to 2 of people.",
-                TermBoundaries::areasAndGroups);
+        all.of("Terms", "Areas, cells, quotas There are the areas 0 to 3 and the groups 0 to 2 of"
+                + " people.", TermBoundaries::areasAndGroups);
         all.of("Terms", "it has a quota (0 to 20; 2 at first)", TermBoundaries::quotas);
         all.of("Terms", "and a population (0 to 9999; 100 at first)", TermBoundaries::populations);
         tellOfAddresses(all);
@@ -19,12 +20,12 @@ final class TermBoundaries {
         tellOfTheNextCall(all);
         all.of("Weights", "The weight of a cell with interviews is its population, as a float,"
                 + " divided by its interviews, as a float.", TermBoundaries::weights);
-        all.of("Settings", "0 calls in vain until it is not reached (1 to 9; 4)",
-                TermBoundaries::settingOfCallsInVain);
+        all.of("Settings", "The settings are (in parentheses: range; first value): 0 calls in vain"
+                + " until it is not reached (1 to 9; 4)", TermBoundaries::settingOfCallsInVain);
         all.of("Settings", "1 days between calls (0 to 9; 1)", TermBoundaries::settingOfDays);
     }
 
-    private static void tellOfAddresses(Boundaries all) {
+    private static void tellOfAddresses(Sentences all) {
         all.of("Addresses", "There are at most 24 addresses, numbered from 0, each in an area.",
                 TermBoundaries::atMost24);
         all.of("Addresses", "An address is open at first.", TermBoundaries::openAtFirst);
@@ -40,12 +41,12 @@ final class TermBoundaries {
                 TermBoundaries::notWanted);
     }
 
-    private static void tellOfCalls(Boundaries all) {
+    private static void tellOfCalls(Sentences all) {
         String part = "Interviewers and calls";
         all.of(part, "There are at most 5 interviewers, numbered from 0, each with an area and a"
                 + " load (1 to 9 calls a day).", TermBoundaries::atMost5);
         all.of(part, "is possible if the address is open", TermBoundaries::possibleIfOpen);
-        all.of(part, "the interviewer has made fewer calls today than the load",
+        all.of(part, "the interviewer has made fewer calls today than the load, and",
                 TermBoundaries::fewerCallsThanTheLoad);
         all.of(part, "if it has an appointment: the present day is that of the appointment and"
                 + " the time is its time", TermBoundaries::onTheDay);
@@ -53,7 +54,7 @@ final class TermBoundaries {
         all.of(part, "if it has none, and there were calls: the latest one was at another time"
                 + " of the day", TermBoundaries::anotherTime);
         all.of(part, "and at least setting 1 days ago", TermBoundaries::daysAgo);
-        all.of(part, "0 nobody is there", TermBoundaries::nobody);
+        all.of(part, "What comes of a call is told: 0 nobody is there", TermBoundaries::nobody);
         all.of(part, "1 refused: the outcome is 2", TermBoundaries::refused);
         all.of(part, "2 an interview of a group: the outcome is 1, or 4 if the quota of its cell"
                 + " is full", TermBoundaries::interview);
@@ -66,7 +67,7 @@ final class TermBoundaries {
                 TermBoundaries::travels);
     }
 
-    private static void tellOfTheNextCall(Boundaries all) {
+    private static void tellOfTheNextCall(Sentences all) {
         String part = "The next call";
         all.of(part, "an appointment on this day at this time; another appointment",
                 TermBoundaries::appointmentNow);
@@ -87,7 +88,8 @@ final class TermBoundaries {
     private static void the512thCall(Due due) {
         FieldQuotas x = new FieldQuotas();
         for (int call = 1; call <= 510; call++) {
-            due.is("quota, call " + call, x.quota(3, 2, call % 21), call == 1 ? 2 : (call - 1) % 21);
+            int before = call == 1 ? 2 : (call - 1) % 21;
+            due.is("quota, call " + call, x.quota(3, 2, call % 21), before);
         }
         due.is("undo, the call 511", x.undo(), 3);
         due.is("cellOf, the call 512", x.cellOf(3, 2, 0), 509 % 21);

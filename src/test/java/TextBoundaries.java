@@ -3,7 +3,7 @@ final class TextBoundaries {
     private TextBoundaries() {
     }
 
-    static void tell(Boundaries all) {
+    static void tell(Sentences all) {
         tellOfForms(all);
         tellOfFaults(all);
         all.of("Promise 21", "character: 32 to 126", TextBoundaries::characters);
@@ -26,7 +26,7 @@ final class TextBoundaries {
         all.of("Promise 24", "NOT_POSSIBLE if it has a fault", TextBoundaries::notPossible);
     }
 
-    private static void tellOfForms(Boundaries all) {
+    private static void tellOfForms(Sentences all) {
         all.of("Texts", "There is a text of at most 80 characters, initially empty",
                 TextBoundaries::atMost80);
         all.of("Texts", "commands, each followed by \";\"", TextBoundaries::semicolons);
@@ -40,12 +40,12 @@ final class TextBoundaries {
                 TextBoundaries::take);
         all.of("Texts", "\"later\" an interviewer, an address, a time, a day and its time (an"
                 + " appointment)", TextBoundaries::later);
-        all.of("Texts", "\"day\" days (they go by)", TextBoundaries::day);
+        all.of("Texts", "or \"day\" days (they go by)", TextBoundaries::day);
         all.of("Texts", "numbers have one to three digits, 0 ahead allowed",
                 TextBoundaries::digits);
     }
 
-    private static void tellOfFaults(Boundaries all) {
+    private static void tellOfFaults(Sentences all) {
         all.of("Texts", "The fault of the text is the position, from 0, of the first character of"
                 + " the first command that is not possible", TextBoundaries::firstFault);
         all.of("Texts", "when those ahead of it are done", TextBoundaries::aheadAreDone);

@@ -1,16 +1,16 @@
 import java.io.IOException;
 import java.nio.file.Files;
 import java.nio.file.Path;
+import java.util.ArrayList;
 import java.util.LinkedHashMap;
+import java.util.List;
 import java.util.Map;
-import java.util.Set;
-import java.util.TreeSet;
 
 /**
- * Runs the test of each sentence of the document that names a boundary case, by itself, and
- * tells those that fail with the heading and the words of the sentence.
+ * Runs the test of each sentence of the document by itself, and tells those that fail with the
+ * heading and the words of the sentence, and all words of the document that have no test.
  */
-final class Boundaries {
+final class Sentences {
     interface Test {
         void run(Due due);
     }
@@ -19,12 +19,12 @@ final class Boundaries {
     private static final long MOST_MILLISECONDS = 120000;
 
     private final Map<String, String> sections = new LinkedHashMap<>();
-    private final Set<String> headings = new TreeSet<>();
+    private final Map<String, List<String>> told = new LinkedHashMap<>();
     private int sentences;
     private int wrong;
 
     /** Without a document at this path the sentences are tested, but not looked up. */
-    Boundaries(Path document) throws IOException {
+    Sentences(Path document) throws IOException {
         if (!Files.isRegularFile(document)) {
             System.out.println("  " + document + " is not there: sentences are not looked up");
             return;
@@ -33,22 +33,19 @@ final class Boundaries {
         for (String line : Files.readAllLines(document)) {
             if (line.startsWith("#")) {
                 heading = line.replaceFirst("#+ ", "").replaceFirst("(Promise \\d+):.*", "$1");
+                continue;
             }
-            sections.merge(heading, plain(line), (above, next) -> above + " " + next);
+            sections.merge(heading, plain(line), (above, next) -> plain(above + " " + next));
         }
     }
 
     /** The words of the sentence may leave out the marks of code and of lists. */
     void of(String heading, String words, Test test) {
         sentences++;
-        headings.add(heading);
         Due due = new Due();
         boolean ends = runToTheEnd(test, due);
         boolean asks = due.asked() > 0;
-        if (!sections.isEmpty()) {
-            String section = sections.getOrDefault(heading, "");
-            due.holds("that the document has these words", plain(section).contains(plain(words)));
-        }
+        note(due, heading, words);
         if (!ends || !asks || due.wrong() != 0) {
             wrong++;
             System.out.println("  FAILED: " + heading + ": \"" + words + "\"");
@@ -56,6 +53,21 @@ final class Boundaries {
         if (!ends) {
             System.out.println("  a call does not end: the other sentences are not tested");
             System.exit(1);
+        }
+    }
+
+    /** Words that leave an answer free, so that no test could fail by them. */
+    void free(String heading, String words) {
+        Due due = new Due();
+        note(due, heading, words);
+        wrong += due.wrong();
+    }
+
+    private void note(Due due, String heading, String words) {
+        told.computeIfAbsent(heading, none -> new ArrayList<>()).add(plain(words));
+        if (!sections.isEmpty()) {
+            String section = sections.getOrDefault(heading, "");
+            due.holds("that the document says \"" + words + "\"", section.contains(plain(words)));
         }
     }
 
@@ -79,14 +91,34 @@ final class Boundaries {
 
     void finish() {
         for (int promise = 1; promise <= PROMISES; promise++) {
-            if (!headings.contains("Promise " + promise)) {
+            if (!told.containsKey("Promise " + promise)) {
                 wrong++;
                 System.out.println("  no sentence of the promise " + promise + " is tested");
             }
         }
+        for (Map.Entry<String, String> section : sections.entrySet()) {
+            tellWhatHasNoTest(section.getKey(), section.getValue());
+        }
         System.out.println("  " + sentences + " sentences, " + wrong + " of them fail");
         if (wrong != 0) {
             System.exit(1);
+        }
+    }
+
+    /** Each sentence stands for one place of the section; signs between them are no words. */
+    private void tellWhatHasNoTest(String heading, String section) {
+        StringBuilder left = new StringBuilder(section);
+        for (String words : told.getOrDefault(heading, List.of())) {
+            int at = section.indexOf(words);
+            for (int i = at; at >= 0 && i < at + words.length(); i++) {
+                left.setCharAt(i, '|');
+            }
+        }
+        for (String words : left.toString().split("\\|+")) {
+            if (words.matches(".*[\\w{}].*")) {
+                wrong++;
+                System.out.println("  NO TEST: " + heading + ": \"" + words.trim() + "\"");
+            }
         }
     }
 
